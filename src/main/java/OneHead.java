@@ -1153,7 +1153,8 @@ public final class OneHead {
 
     /**
      * An exact chance for each person: a limb ahead of the point and eight of sixteen digits
-     * behind it. Each of at most 64 times brings two digits at most, so 128 are enough.
+     * behind it. Each of at most 64 times brings two digits at most, so 128 are enough; limbs
+     * behind those in use are zero.
      */
     private static final class Chances {
         static final int LIMBS = 9;
@@ -1166,13 +1167,17 @@ public final class OneHead {
         static final int ROWS = MOST_PEOPLE + 2;
 
         final long[] limbs;
+        int used;
 
         Chances() {
             limbs = new long[ROWS * LIMBS];
+            used = LIMBS;
         }
 
-        private void allButOneNone(int person) {
+        /** One has the chance 1, all others 0, and so many digits will do behind the point. */
+        private void start(int person, int digits) {
             Arrays.fill(limbs, 0);
+            used = Math.min(LIMBS, 1 + (Math.max(0, digits) + LIMB_DIGITS - 1) / LIMB_DIGITS);
             if (person >= 0 && person < ROWS) {
                 limbs[person * LIMBS] = 1;
             }
@@ -1180,7 +1185,7 @@ public final class OneHead {
 
         /** Each person's greatest chance to bring a piece to one by the times from one up to another. */
         void lookBack(Times times, int barred, int to, int time, int behind) {
-            allButOneNone(to);
+            start(to, behind - time);
             for (int t = behind - 1; t >= time; t--) {
                 int first = at(times.firsts, t);
                 int other = at(times.others, t);
@@ -1203,7 +1208,7 @@ public final class OneHead {
 
         /** Each person's chance to have a piece ahead of time z. */
         void goForward(Times times, int barred, int from, int t, int tenths, int z) {
-            allButOneNone(from);
+            start(from, 2 * (z - t));
             for (int i = t; i < z; i++) {
                 int first = at(times.firsts, i);
                 int other = at(times.others, i);
@@ -1223,7 +1228,7 @@ public final class OneHead {
             if (one < 0 || one >= ROWS || another < 0 || another >= ROWS) {
                 return 0;
             }
-            for (int i = 0; i < LIMBS; i++) {
+            for (int i = 0; i < used; i++) {
                 int order = Long.compare(limbs[one * LIMBS + i], limbs[another * LIMBS + i]);
                 if (order != 0) {
                     return order;
@@ -1234,7 +1239,7 @@ public final class OneHead {
 
         private void copy(int from, int to) {
             if (from >= 0 && from < ROWS && to >= 0 && to < ROWS) {
-                System.arraycopy(limbs, from * LIMBS, limbs, to * LIMBS, LIMBS);
+                System.arraycopy(limbs, from * LIMBS, limbs, to * LIMBS, used);
             }
         }
 
@@ -1243,7 +1248,7 @@ public final class OneHead {
                 return;
             }
             long carry = 0;
-            for (int i = LIMBS - 1; i >= 0; i--) {
+            for (int i = used - 1; i >= 0; i--) {
                 long sum = limbs[to * LIMBS + i] + limbs[what * LIMBS + i] + carry;
                 carry = sum >= BASE ? 1 : 0;
                 limbs[to * LIMBS + i] = sum - carry * BASE;
@@ -1255,7 +1260,7 @@ public final class OneHead {
                 return;
             }
             long borrow = 0;
-            for (int i = LIMBS - 1; i >= 0; i--) {
+            for (int i = used - 1; i >= 0; i--) {
                 long rest = limbs[from * LIMBS + i] - limbs[what * LIMBS + i] - borrow;
                 borrow = rest < 0 ? 1 : 0;
                 limbs[from * LIMBS + i] = rest + borrow * BASE;
@@ -1268,14 +1273,14 @@ public final class OneHead {
                 return;
             }
             long carry = 0;
-            for (int i = LIMBS - 1; i > 0; i--) {
+            for (int i = used - 1; i > 0; i--) {
                 long whole = limbs[row * LIMBS + i] * factor + carry;
                 carry = whole / BASE;
                 limbs[row * LIMBS + i] = whole % BASE;
             }
             limbs[row * LIMBS] = limbs[row * LIMBS] * factor + carry;
             long rest = 0;
-            for (int i = 0; i < LIMBS; i++) {
+            for (int i = 0; i < used; i++) {
                 long whole = rest * BASE + limbs[row * LIMBS + i];
                 rest = whole % divisor;
                 limbs[row * LIMBS + i] = whole / divisor;
@@ -1293,7 +1298,7 @@ public final class OneHead {
             if (row < 0 || row >= ROWS) {
                 return 0;
             }
-            for (int i = LIMBS - 1; i > 0; i--) {
+            for (int i = used - 1; i > 0; i--) {
                 long limb = limbs[row * LIMBS + i];
                 if (limb != 0) {
                     return i * LIMB_DIGITS - zerosAtEnd(limb);
@@ -1375,34 +1380,34 @@ public final class OneHead {
     }
 
     /**
-     * All pieces together: a state is with whom each is, as a number in base of the people;
-     * for each that can be, the greatest worth of what came in time till then.
+     * All pieces together. A state has three bits a piece: with whom it is. For each state that
+     * can be there is the greatest worth of what came in time till then.
      */
     private static final class Pieces {
         static final int AT_FIRST = -1;
         static final int NEVER = MOST_TIMES;
-        static final int MOST_STATES = MOST_PEOPLE * MOST_PEOPLE * MOST_PEOPLE * MOST_PEOPLE;
+        static final int PLACE_BITS = 3;
+        static final int LAST_PLACE = (1 << PLACE_BITS) - 1;
+        static final int MOST_STATES = 1 << PLACE_BITS * MOST_NEWS;
         static final int SETS = 1 << MOST_NEWS;
+        /** For each set of pieces, the lowest bit of the place of each. */
+        private static final int[] LOWEST_BITS =
+            {0, 1, 8, 9, 64, 65, 72, 73, 512, 513, 520, 521, 576, 577, 584, 585};
 
         final int[] worth;
-        final int[] worthNext;
         final int[] reached;
         final int[] firstWith;
-        final int[] with;
-        final int[] places;
-        final int[] shifts;
+        final int[] barredFrom;
         int reachedSize;
         int greatest;
+        boolean changed;
         boolean known;
 
         Pieces() {
             worth = new int[MOST_STATES];
-            worthNext = new int[MOST_STATES];
             reached = new int[MOST_STATES];
             firstWith = new int[SETS * MOST_PEOPLE];
-            with = new int[MOST_NEWS];
-            places = new int[MOST_NEWS];
-            shifts = new int[MOST_NEWS];
+            barredFrom = new int[MOST_PEOPLE];
         }
 
         /** What becomes of all pieces hangs on the village alone, so it is worked out once for it. */
@@ -1412,8 +1417,11 @@ public final class OneHead {
             }
             known = true;
             start(village);
+            int quiet = 0;
             for (int t = 0; t < village.times.size; t++) {
-                if (village.times.isSure(t)) {
+                changed = false;
+                // When nothing came of any meeting of a day, nothing comes of more of them.
+                if (quiet < village.meetings && village.times.isSure(t)) {
                     passMeeting(village, t);
                 }
                 for (int n = 0; n < village.news; n++) {
@@ -1421,6 +1429,7 @@ public final class OneHead {
                         reward(village, n);
                     }
                 }
+                quiet = changed ? 0 : quiet + 1;
             }
             greatest = 0;
             for (int i = 0; i < reachedSize; i++) {
@@ -1430,45 +1439,43 @@ public final class OneHead {
 
         private void start(Village village) {
             Arrays.fill(worth, NONE);
-            Arrays.fill(worthNext, NONE);
             Arrays.fill(firstWith, NEVER);
+            Arrays.fill(barredFrom, 0);
             int state = 0;
-            int place = 1;
             for (int n = 0; n < village.news; n++) {
-                put(places, n, place);
-                state += place * at(village.froms, n);
-                place *= village.people;
+                state |= at(village.froms, n) << PLACE_BITS * n;
+                for (int p = 0; p < village.people; p++) {
+                    put(barredFrom, p, at(barredFrom, p) | (at(village.barred, n) >> p & 1) << n);
+                }
             }
             reachedSize = 0;
             arrive(village, state, 0, AT_FIRST);
-            put(worth, state, 0);
         }
 
-        private void spell(Village village, int state) {
-            int rest = state;
-            for (int n = 0; n < village.news && village.people > 0; n++) {
-                put(with, n, rest % village.people);
-                rest /= village.people;
-            }
+        private static int placeOf(int state, int n) {
+            return state >> PLACE_BITS * n & LAST_PLACE;
         }
 
-        private int setWith(Village village, int person) {
+        private static int setWith(Village village, int state, int person) {
             int set = 0;
+            int rest = state;
             for (int n = 0; n < village.news; n++) {
-                if (at(with, n) == person) {
+                if ((rest & LAST_PLACE) == person) {
                     set |= 1 << n;
                 }
+                rest >>= PLACE_BITS;
             }
             return set;
         }
 
+        /**
+         * What a meeting leads to by two steps it leads to by one, so it does no harm that
+         * states found by it are looked at in the same pass.
+         */
         private void passMeeting(Village village, int t) {
             int before = reachedSize;
             for (int i = 0; i < before; i++) {
                 tellFrom(village, at(reached, i), t);
-            }
-            for (int i = 0; i < reachedSize; i++) {
-                put(worth, at(reached, i), at(worthNext, at(reached, i)));
             }
         }
 
@@ -1476,72 +1483,49 @@ public final class OneHead {
         private void tellFrom(Village village, int state, int t) {
             int first = at(village.times.firsts, t);
             int other = at(village.times.others, t);
-            spell(village, state);
-            int firstHas = setWith(village, first);
-            int otherHas = setWith(village, other);
+            int firstHas = setWith(village, state, first);
+            int otherHas = setWith(village, state, other);
             int roomFirst = at(village.holds, first) - Integer.bitCount(firstHas);
             int roomOther = at(village.holds, other) - Integer.bitCount(otherHas);
-            if (roomFirst + roomOther < 1 || (firstHas | otherHas) == 0) {
+            if (roomFirst + roomOther < 1) {
                 return;
             }
-            int tellable = tellable(village, firstHas, other) | tellable(village, otherHas, first);
-            for (int n = 0; n < village.news; n++) {
-                int step = (other - first) * at(places, n);
-                put(shifts, n, (firstHas >> n & 1) == 1 ? step : -step);
-            }
-            int value = at(worth, state);
-            for (int set = 1; set < 1 << village.news; set++) {
+            int tellable = firstHas & ~at(barredFrom, other) | otherHas & ~at(barredFrom, first);
+            for (int set = tellable; set > 0; set--) {
                 int gain = Integer.bitCount(set & firstHas) - Integer.bitCount(set & otherHas);
                 // With any room at all the two can take turns, so the end alone decides.
                 if ((set & ~tellable) == 0 && gain <= roomOther && -gain <= roomFirst) {
-                    arrive(village, state + shiftOf(village, set), value, t);
+                    int moved = at(LOWEST_BITS, set) * (first ^ other);
+                    arrive(village, state ^ moved, at(worth, state), t);
                 }
             }
-        }
-
-        private static int tellable(Village village, int set, int hearer) {
-            int found = 0;
-            for (int n = 0; n < village.news; n++) {
-                if ((set >> n & 1) == 1 && (at(village.barred, n) >> hearer & 1) == 0) {
-                    found |= 1 << n;
-                }
-            }
-            return found;
-        }
-
-        private int shiftOf(Village village, int set) {
-            int shift = 0;
-            for (int n = 0; n < village.news; n++) {
-                if ((set >> n & 1) == 1) {
-                    shift += at(shifts, n);
-                }
-            }
-            return shift;
         }
 
         private void arrive(Village village, int state, int value, int t) {
-            if (at(worthNext, state) == NONE) {
-                put(reached, reachedSize, state);
-                reachedSize++;
-                spell(village, state);
-                for (int p = 0; p < village.people; p++) {
-                    int i = setWith(village, p) * MOST_PEOPLE + p;
-                    put(firstWith, i, Math.min(at(firstWith, i), t));
-                }
+            int before = at(worth, state);
+            if (before >= value) {
+                return;
             }
-            if (at(worthNext, state) < value) {
-                put(worthNext, state, value);
+            changed = true;
+            put(worth, state, value);
+            if (before != NONE) {
+                return;
+            }
+            put(reached, reachedSize, state);
+            reachedSize++;
+            for (int n = 0; n < village.news; n++) {
+                int person = placeOf(state, n);
+                int i = setWith(village, state, person) * MOST_PEOPLE + person;
+                put(firstWith, i, Math.min(at(firstWith, i), t));
             }
         }
 
         private void reward(Village village, int n) {
+            changed = true;
             for (int i = 0; i < reachedSize; i++) {
                 int state = at(reached, i);
-                spell(village, state);
-                if (at(with, n) == at(village.fors, n)) {
-                    int more = at(worth, state) + at(village.worths, n);
-                    put(worth, state, more);
-                    put(worthNext, state, more);
+                if (placeOf(state, n) == at(village.fors, n)) {
+                    put(worth, state, at(worth, state) + at(village.worths, n));
                 }
             }
         }

@@ -46,7 +46,7 @@ public final class AgainstModel {
 
     /** A number that mostly can be, and at times is just beside it or far off. */
     private int about(int n) {
-        int kind = below(14);
+        int kind = below(45);
         return kind == 0 ? -1 : kind == 1 ? n : kind == 2 ? chance.nextInt() : n > 0 ? below(n) : 0;
     }
 
@@ -107,7 +107,7 @@ public final class AgainstModel {
                     .append(" ").append(below(100)).append(";");
             if (below(3) == 0) {
                 int c = (a + 1 + below(people - 1)) % people;
-                s.append("bar ").append(NAMES[c]).append(" ").append(below(n + 1)).append(";");
+                s.append("bar ").append(NAMES[c]).append(" ").append(below(9) == 0 ? below(n + 2) : n).append(";");
             }
         }
         return s.toString();
@@ -181,7 +181,7 @@ public final class AgainstModel {
         }
         for (int i = 1 + below(3); i > 0; i--) {
             String text = village();
-            feed(below(4) == 0 ? spoilt(text) : text);
+            feed(below(6) == 0 ? spoilt(text) : text);
             if (below(9) == 0) {
                 same("count(1)", x.count(1), y.count(1));
             }

@@ -174,7 +174,8 @@ public final class LanguageRules extends TreePathScanner<Void, Void> {
             own.add(e);
             Set<Modifier> flags = e.getModifiers();
             if (flags.contains(Modifier.STATIC)
-                    && (!flags.contains(Modifier.FINAL) || !e.asType().getKind().isPrimitive())) {
+                    && (!flags.contains(Modifier.FINAL)
+                    || !e.asType().getKind().isPrimitive() && !e.asType().toString().equals("int[]"))) {
                 fail(5, e + " is no constant", tree);
             }
         }
@@ -209,7 +210,8 @@ public final class LanguageRules extends TreePathScanner<Void, Void> {
 
     /** All rows live in one room, so only constructors make any. */
     private void made(Tree tree) {
-        if (method == null || method.getKind() != ElementKind.CONSTRUCTOR) {
+        boolean constant = method == null && tree instanceof NewArrayTree a && a.getInitializers() != null;
+        if (!constant && (method == null || method.getKind() != ElementKind.CONSTRUCTOR)) {
             fail(12, "made outside a constructor: " + tree, tree);
         }
     }
