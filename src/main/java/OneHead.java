@@ -1389,6 +1389,7 @@ public final class OneHead {
         static final int PLACE_BITS = 3;
         static final int LAST_PLACE = (1 << PLACE_BITS) - 1;
         static final int MOST_STATES = 1 << PLACE_BITS * MOST_NEWS;
+        static final int MOST_REACHED = MOST_PEOPLE * MOST_PEOPLE * MOST_PEOPLE * MOST_PEOPLE;
         static final int SETS = 1 << MOST_NEWS;
         /** For each set of pieces, the lowest bit of the place of each. */
         private static final int[] LOWEST_BITS =
@@ -1405,7 +1406,7 @@ public final class OneHead {
 
         Pieces() {
             worth = new int[MOST_STATES];
-            reached = new int[MOST_STATES];
+            reached = new int[MOST_REACHED];
             firstWith = new int[SETS * MOST_PEOPLE];
             barredFrom = new int[MOST_PEOPLE];
         }
