@@ -1,79 +1,10 @@
 /** Each promise of the document by hand: ordinary inputs, the edges it names, wrong inputs. */
-public final class Promises {
-    private static final int NONE = OneHead.NONE;
-    private static final int RANGE = OneHead.RANGE;
-    private static final int FULL = OneHead.FULL;
-    private static final int STATE = OneHead.STATE;
-
+public final class Promises extends Checks {
     /** TIMES of a day: 0 ana-bob 8, 1 bob-cid 9 (5 of ten), 2 bob-cid 20. */
     private static final String SMALL = "person ana 1; person bob 2; person cid 1 dies 100;"
             + "meet ana bob 8; meet bob cid 20; meet bob cid 9 chance 5;"
             + "news ana cid 30 10; news bob ana 20 7;";
     private static final String THREE = "person a 1;person b 1;person c 1;";
-
-    private static int promise;
-    private static int made = 0;
-    private static int wrong = 0;
-
-    private static void due(String call, int got, int want) {
-        made++;
-        if (got != want) {
-            wrong++;
-            System.out.println("promise " + promise + ": " + call + " answered " + got + ", due is " + want);
-        }
-    }
-
-    private static void say(OneHead x, String text) {
-        x.end(0);
-        for (int i = 0; i < text.length(); i += 20) {
-            int[] five = new int[5];
-            for (int j = 0; j < 20; j++) {
-                five[j / 4] = five[j / 4] << 8 | (i + j < text.length() ? text.charAt(i + j) : ' ');
-            }
-            x.feed(five[0], five[1], five[2], five[3], five[4]);
-        }
-        x.end(text.length());
-    }
-
-    private static int tellVillage(OneHead x, String text) {
-        say(x, text);
-        return x.village();
-    }
-
-    private static OneHead of(String text) {
-        OneHead x = new OneHead();
-        if (tellVillage(x, text) < 0) {
-            due("village of \"" + text + "\"", x.fault(0) * 1000 + x.fault(1), 0);
-        }
-        return x;
-    }
-
-    private static int judge(OneHead x, String row) {
-        say(x, row);
-        return x.judge();
-    }
-
-    private static int fight(OneHead x, String row, int person) {
-        say(x, row);
-        return x.fight(person);
-    }
-
-    private static int reply(OneHead x, String row, int time) {
-        say(x, row);
-        return x.reply(time);
-    }
-
-    private static int ring(OneHead x, String row, int d) {
-        say(x, row);
-        return x.ring(d);
-    }
-
-    private static void dueFault(String text, int kind, int place) {
-        OneHead x = new OneHead();
-        due("village() of \"" + text + "\"", tellVillage(x, text), NONE);
-        due("fault(0) of \"" + text + "\"", x.fault(0), kind);
-        due("fault(1) of \"" + text + "\"", x.fault(1), place);
-    }
 
     public static void main(String[] args) {
         newObject();
@@ -96,14 +27,11 @@ public final class Promises {
         runs();
         slots();
         counts();
-        System.out.println(made + " answers looked at, " + wrong + " are not as due");
-        if (wrong != 0) {
-            System.exit(1);
-        }
+        finish();
     }
 
     private static void newObject() {
-        promise = 1;
+        about = "promise 1";
         OneHead x = new OneHead();
         for (int what = 0; what < 4; what++) {
             due("told(" + what + ")", x.told(what), 0);
@@ -120,7 +48,7 @@ public final class Promises {
     }
 
     private static void feeding() {
-        promise = 2;
+        about = "promise 2";
         OneHead x = new OneHead();
         for (int i = 1; i <= 45; i++) {
             due("feed", x.feed(0, 0, 0, 0, 0), 20 * i);
@@ -142,7 +70,7 @@ public final class Promises {
     }
 
     private static void ending() {
-        promise = 3;
+        about = "promise 3";
         OneHead x = new OneHead();
         x.feed(0, 0, 0, 0, 0);
         due("end(21)", x.end(21), NONE);
@@ -156,7 +84,7 @@ public final class Promises {
     }
 
     private static void villages() {
-        promise = 4;
+        about = "promise 4";
         OneHead x = new OneHead();
         due("village()", x.village(), 0);
         due("village()", tellVillage(x, SMALL), 8);
@@ -194,7 +122,7 @@ public final class Promises {
     }
 
     private static void faults() {
-        promise = 5;
+        about = "promise 5";
         OneHead x = new OneHead();
         due("fault(2)", x.fault(2), NONE);
         due("fault(-1)", x.fault(-1), NONE);
@@ -248,7 +176,7 @@ public final class Promises {
     }
 
     private static void toldThings() {
-        promise = 6;
+        about = "promise 6";
         OneHead x = of(SMALL + "bar bob 0;bar cid 0;");
         int[][] due = {{0, 3}, {1, 3}, {2, 2}, {3, 12}, {4, NONE}, {9, NONE}, {10, 1}, {11, 2}, {12, 1}, {13, NONE},
             {20, 0}, {22, 100}, {23, NONE}, {30, 0}, {31, 1}, {32, NONE}, {40, 2}, {41, 0}, {42, NONE},
@@ -260,7 +188,7 @@ public final class Promises {
     }
 
     private static void meetingsAndTimes() {
-        promise = 7;
+        about = "promise 7";
         OneHead x = of(SMALL);
         int[][] meetings = {{0, 1, 8, 10}, {1, 2, 20, 10}, {1, 2, 9, 5}};
         for (int m = 0; m < 3; m++) {
@@ -272,7 +200,7 @@ public final class Promises {
         due("meeting(-1, 0)", x.meeting(-1, 0), RANGE);
         due("meeting(0, 4)", x.meeting(0, 4), RANGE);
         due("meeting(0, -1)", x.meeting(0, -1), RANGE);
-        promise = 8;
+        about = "promise 8";
         int[] order = {0, 2, 1};
         int[] hours = {8, 9, 20};
         for (int t = 0; t < 12; t++) {
@@ -287,7 +215,7 @@ public final class Promises {
     }
 
     private static void judging() {
-        promise = 9;
+        about = "promise 9";
         OneHead x = of(SMALL);
         due("all right", judge(x, "0 0;2 0;"), 2);
         due("count(1)", x.count(1), 0);
@@ -305,7 +233,7 @@ public final class Promises {
         due("the longest row", judge(x, "0 0;".repeat(225)), 225);
         OneHead y = of(THREE + "meet a b 1;meet b c 2;news a c 9 1;bar b 0;");
         due("barred", judge(y, "0 0;"), -1);
-        promise = 10;
+        about = "promise 10";
         OneHead z = of(SMALL);
         due("no judge() yet", z.judged(0, 0), NONE);
         judge(z, "0 0;2 0;3 0;");
@@ -327,7 +255,7 @@ public final class Promises {
     }
 
     private static void soonAndBars() {
-        promise = 11;
+        about = "promise 11";
         OneHead x = of(SMALL);
         due("soon(0, 0, 2, 0)", x.soon(0, 0, 2, 0), 2);
         due("soon(0, 0, 2, 1)", x.soon(0, 0, 2, 1), 5);
@@ -345,7 +273,7 @@ public final class Promises {
         due("round the barred", y.soon(0, 0, 3, 0), 3);
         due("to the barred", y.soon(0, 0, 1, 0), NONE);
         due("from the barred", y.soon(0, 1, 3, 0), 1);
-        promise = 13;
+        about = "promise 13";
         due("bars(0, 0, 2, 0)", x.bars(0, 0, 2, 0), 2);
         due("bars(0, 0, 1, 0)", x.bars(0, 0, 1, 0), 0);
         due("none already", x.bars(0, 0, 2, 12), 0);
@@ -360,7 +288,7 @@ public final class Promises {
     }
 
     private static void surest() {
-        promise = 12;
+        about = "promise 12";
         OneHead x = of(SMALL);
         due("surest(0, 0, 2, 0, 19, 0)", x.surest(0, 0, 2, 0, 19, 0), 500000);
         due("surest(0, 0, 2, 0, 19, 1)", x.surest(0, 0, 2, 0, 19, 1), 1);
@@ -394,7 +322,7 @@ public final class Promises {
     }
 
     private static void allPieces() {
-        promise = 14;
+        about = "promise 14";
         OneHead x = of(SMALL);
         due("all(0)", x.all(0), 17);
         due("all(1)", x.all(1), 17);
@@ -426,7 +354,7 @@ public final class Promises {
     }
 
     private static void together() {
-        promise = 15;
+        about = "promise 15";
         OneHead x = of(SMALL);
         due("together(3, 1)", x.together(3, 1), 0);
         due("together(3, 0)", x.together(3, 0), NONE);
@@ -444,7 +372,7 @@ public final class Promises {
     }
 
     private static void replies() {
-        promise = 16;
+        about = "promise 16";
         OneHead x = of(SMALL);
         due("reply 012", reply(x, "012", 0), 3);
         due("count(1)", x.count(1), 0);
@@ -467,7 +395,7 @@ public final class Promises {
     }
 
     private static void rings() {
-        promise = 17;
+        about = "promise 17";
         OneHead x = of("person a 1 dies 100;person b 1;person c 1 dies 1;person d 1 dies 500;");
         due("ring(0)", ring(x, "0", 0), 1000000);
         due("ring(1)", ring(x, "0", 1), 900000);
@@ -488,7 +416,7 @@ public final class Promises {
         due("d 401", ring(x, "0", 401), RANGE);
         due("count(1)", x.count(1), 0);
         due("d -1", ring(x, "0", -1), RANGE);
-        promise = 18;
+        about = "promise 18";
         due("bestRing(1)", x.bestRing(1), 2);
         due("bestRing(2)", x.bestRing(2), 6);
         due("bestRing(3)", x.bestRing(3), 7);
@@ -502,7 +430,7 @@ public final class Promises {
     }
 
     private static void whereNow() {
-        promise = 19;
+        about = "promise 19";
         OneHead x = of(SMALL);
         due("where(0, 0, 0, 5, 0, 0)", x.where(0, 0, 0, 5, 0, 0), 1000000);
         due("where(0, 0, 0, 5, 1, 1)", x.where(0, 0, 0, 5, 1, 1), 500000);
@@ -528,7 +456,7 @@ public final class Promises {
         due("cut once", z.where(0, 0, 0, 7, 2, 0), 668200);
         // (1 + 0.58^3) / 2 = 0.597556
         due("three times", z.where(0, 0, 0, 7, 3, 0), 597556);
-        promise = 20;
+        about = "promise 20";
         due("ask(0, 0, 0, 5, 1)", x.ask(0, 0, 0, 5, 1), 0);
         due("ask(0, 0, 0, 5, 0)", x.ask(0, 0, 0, 5, 0), 0);
         due("ask(0, 2, 0, 0, 5)", x.ask(0, 2, 0, 0, 5), 2);
@@ -546,34 +474,34 @@ public final class Promises {
     }
 
     private static void fights() {
-        promise = 21;
+        about = "promise 21";
         OneHead x = of(SMALL);
         due("fight of none", fight(x, "", 0), 0);
-        promise = 22;
+        about = "promise 22";
         due("believe(0)", x.believe(0), 1);
         due("believe(1)", x.believe(1), 0);
         due("believe(2)", x.believe(2), NONE);
         due("believe(-1)", x.believe(-1), NONE);
-        promise = 21;
+        about = "promise 21";
         due("the false one sent after", fight(x, "0 0;1 0;3 1;", 0), 3);
-        promise = 22;
+        about = "promise 22";
         due("believe(0)", x.believe(0), 5);
         due("believe(1)", x.believe(1), 2);
-        promise = 21;
+        about = "promise 21";
         due("it can't be", fight(x, "0 0;1 1;", 0), -2);
         due("ahead of the one before", fight(x, "3 0;0 1;", 0), -2);
         due("no such time", fight(x, "12 0;", 0), -1);
         due("no third one", fight(x, "0 2;", 0), -1);
-        promise = 22;
+        about = "promise 22";
         due("believe(0) stays", x.believe(0), 5);
-        promise = 21;
+        about = "promise 21";
         due("no row", fight(x, "0 0", 0), -1000);
         due("count(1)", x.count(1), 0);
         due("no such person", fight(x, "0 0;", 3), -2000);
         due("no such person", fight(x, "0 0;", -1), -2000);
         due("count(1)", x.count(1), 0);
         due("both at once, over full heads", fight(x, "0 1;0 0;2 1;2 0;", 0), 4);
-        promise = 22;
+        about = "promise 22";
         due("the last one counts", x.believe(0), 7);
         due("believe(1)", x.believe(1), 0);
         fight(x, "0 1;0 1;", 0);
@@ -581,12 +509,12 @@ public final class Promises {
         due("believe(0)", x.believe(0), 0);
         due("no fight", of(SMALL).believe(0), NONE);
         OneHead barred = of(THREE + "meet a b 1;news a c 9 1;bar b 0;");
-        promise = 21;
+        about = "promise 21";
         due("nobody is barred", fight(barred, "0 0;", 0), 1);
     }
 
     private static void rules() {
-        promise = 23;
+        about = "promise 23";
         OneHead x = of(SMALL);
         due("any at first", x.rule(0, 0, -5), 3);
         due("rule(0, 1, 2)", x.rule(0, 1, 2), 0);
@@ -633,13 +561,13 @@ public final class Promises {
     }
 
     private static void runs() {
-        promise = 24;
+        about = "promise 24";
         OneHead x = of(SMALL);
         due("begin(-1)", x.begin(-1), RANGE);
         due("go(0)", x.go(0), STATE);
         due("begin(0)", x.begin(0), 1);
         due("begin(2147483647)", x.begin(2147483647), 1);
-        promise = 25;
+        about = "promise 25";
         due("go(65)", x.go(65), RANGE);
         due("go(-1)", x.go(-1), RANGE);
         due("go(13)", x.go(13), RANGE);
@@ -649,7 +577,7 @@ public final class Promises {
         due("go(7)", x.go(7), 12);
         due("go(1)", x.go(1), RANGE);
         due("go(0)", x.go(0), 12);
-        promise = 26;
+        about = "promise 26";
         OneHead y = of("person a 1;person b 2;person c 1;meet a b 8;meet b c 20;news a c 30 10;news b a 20 7;");
         due("no run", y.now(0, 0), NONE);
         y.begin(1);
@@ -670,7 +598,7 @@ public final class Promises {
         due("now(0, 3)", y.now(0, 3), RANGE);
         due("now(0, -1)", y.now(0, -1), RANGE);
         due("now(2, 0)", y.now(2, 0), RANGE);
-        promise = 27;
+        about = "promise 27";
         due("no run", x.head(0, 0) >= 0 ? of(SMALL).head(0, 0) : 0, NONE);
         due("head(0, 0)", y.head(0, 0), 1);
         due("head(1, 0)", y.head(1, 0), 0);
@@ -683,7 +611,7 @@ public final class Promises {
 
     /** A run reckoned here by the document's words: which meetings come about, who dies. */
     private static void seeds() {
-        promise = 25;
+        about = "promise 25";
         for (int seed = 0; seed < 40; seed++) {
             OneHead x = of("person a 1;person b 1 dies 300;person c 1 dies 1;meet a b 1 chance 4;news a b 95 1;");
             x.begin(seed);
@@ -714,7 +642,7 @@ public final class Promises {
     }
 
     private static void slots() {
-        promise = 28;
+        about = "promise 28";
         OneHead x = of(SMALL);
         due("keep(0)", x.keep(0), STATE);
         due("keep(3)", x.keep(3), RANGE);
@@ -723,7 +651,7 @@ public final class Promises {
         due("keep(0)", x.keep(0), 4);
         due("keep(3)", x.keep(3), RANGE);
         due("keep(-1)", x.keep(-1), RANGE);
-        promise = 29;
+        about = "promise 29";
         due("take(1)", x.take(1), STATE);
         due("take(3)", x.take(3), RANGE);
         due("take(-1)", x.take(-1), RANGE);
@@ -733,7 +661,7 @@ public final class Promises {
         x.begin(6);
         due("take(0) again", x.take(0), 4);
         due("it is still kept", goOn(x).equals(first) ? 1 : 0, 1);
-        promise = 28;
+        about = "promise 28";
         x.begin(9);
         due("keep(0) anew", x.keep(0), 0);
         due("take(0)", x.take(0), 0);
@@ -750,7 +678,7 @@ public final class Promises {
     }
 
     private static void counts() {
-        promise = 30;
+        about = "promise 30";
         OneHead x = of(SMALL);
         due("count(0)", x.count(0), 8);
         due("count(1)", x.count(1), 0);
