@@ -5,8 +5,11 @@ import java.util.Random;
 /** Long runs of calls by chance, told to OneHead and to the Model: each answer must be the same. */
 public final class AgainstModel {
     private static final String[] NAMES = {"a", "b", "c", "dd", "person", "meet", "abcdefgh", "dies", "z"};
+    /** What an object answers behind its 512th call is free; no step makes more than a hundred calls, no village more than that. */
+    private static final int ENOUGH = 410;
     private static int wrong = 0;
     private static long calls = 0;
+    private static int most = 0;
 
     private final Random chance;
     private final int run;
@@ -20,9 +23,13 @@ public final class AgainstModel {
     }
 
     public static void main(String[] args) {
-        int runs = args.length > 0 ? Integer.parseInt(args[0]) : 1500;
+        int runs = args.length > 0 ? Integer.parseInt(args[0]) : 10000;
         for (int run = 0; run < runs && wrong == 0; run++) {
             new AgainstModel(run).go();
+        }
+        if (most > 512) {
+            wrong++;
+            System.out.println(most + " calls of one object are too many");
         }
         System.out.println(calls + " calls, " + wrong + " answers are not as due");
         if (wrong != 0) {
@@ -33,6 +40,7 @@ public final class AgainstModel {
     private void same(String call, int got, int due) {
         calls++;
         told.add(call + " -> " + got);
+        most = Math.max(most, told.size());
         if (got != due) {
             wrong++;
             System.out.println("run " + run + ": " + call + " answered " + got + ", due is " + due);
@@ -148,7 +156,7 @@ public final class AgainstModel {
         String row = "";
         int times = y.told(3);
         int t = 0;
-        for (int tries = 0; tries < 30 && times > 0; tries++) {
+        for (int tries = 0; tries < 12 && times > 0; tries++) {
             t = Math.min(times - 1, t + below(3));
             String longer = row + t + " " + below(fight ? 2 : Math.max(1, y.told(2))) + ";";
             feed(longer);
@@ -179,7 +187,7 @@ public final class AgainstModel {
         if (below(4) == 0) {
             some(12);
         }
-        for (int i = 1 + below(3); i > 0; i--) {
+        for (int i = 1 + below(4); i > 0 && told.size() < ENOUGH; i--) {
             String text = village();
             feed(below(6) == 0 ? spoilt(text) : text);
             if (below(9) == 0) {
@@ -190,15 +198,15 @@ public final class AgainstModel {
                 same("fault(" + what + ")", x.fault(what), y.fault(what));
                 same("count(" + what + ")", x.count(what), y.count(what));
             }
-            for (int what = -2; what < 90; what++) {
+            for (int what = -2; what < 90; what += 1 + below(3)) {
                 same("told(" + what + ")", x.told(what), y.told(what));
             }
-            some(150);
+            some(10 + below(150));
         }
     }
 
     private void some(int calls) {
-        for (int i = 0; i < calls && wrong == 0; i++) {
+        for (int i = 0; i < calls && wrong == 0 && told.size() < ENOUGH; i++) {
             switch (below(7)) {
                 case 0 -> plain();
                 case 1 -> row();

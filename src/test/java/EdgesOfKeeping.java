@@ -1,3 +1,5 @@
+import java.math.BigInteger;
+
 /** Rings, where a piece is now, fights: Terms IV, promises 17 to 22. */
 final class EdgesOfKeeping extends Sentences {
     private static final String MORTALS = "person a 1 dies 100;person b 1;person c 1 dies 1;person d 1 dies 500;";
@@ -76,6 +78,18 @@ final class EdgesOfKeeping extends Sentences {
         due("0.5 to the 19th, every other day", ring(x, "13", 39), 1);
         due("0.5 to the 20th, every other day", ring(x, "13", 40), 0);
         due("0.5 to the 400th", ring(x, "3", 400), 0);
+        due("0.5 to the 6th, whole millionths", ring(x, "3", 6), 15625);
+        due("0.9 to the 6th, whole millionths", ring(x, "0", 6), 531441);
+        for (int dies : new int[] {1, 7, 50, 333, 450, 499, 500}) {
+            OneHead one = of("person a 1 dies " + dies + ";");
+            BigInteger product = BigInteger.valueOf(1000000);
+            BigInteger whole = BigInteger.ONE;
+            for (int d = 0; d <= 100; d++) {
+                due("dies " + dies + ", " + d + " days", ring(one, "0", d), product.divide(whole).intValueExact());
+                product = product.multiply(BigInteger.valueOf(1000 - dies));
+                whole = whole.multiply(BigInteger.valueOf(1000));
+            }
+        }
     }
 
     private static void ringAnswers() {
@@ -143,6 +157,13 @@ final class EdgesOfKeeping extends Sentences {
         OneHead barred = of(LINE + "news a c 9 1;bar b 0;");
         due("he may not tell one who is barred", barred.where(0, 0, 0, 10, 12, 0), 1000000);
         due("one who is barred tells it", barred.where(0, 1, 0, 10, 1, 0), 1000000);
+        OneHead turned = of(LOW + "meet b a 8;news a c 9 1;bar b 0;");
+        due("he may not tell one who is barred, told first", turned.where(0, 0, 0, 10, 1, 0), 1000000);
+        OneHead seven = of(LOW + "person d 1;person e 1;person f 1;person g 1;meet f g 1;meet g a 2;news a c 9 1;");
+        due("the seventh has it", seven.where(0, 5, 0, 6, 1, 6), 600000);
+        due("the sixth has it", seven.where(0, 5, 0, 6, 1, 5), 400000);
+        due("the first has it from the seventh", seven.where(0, 5, 0, 6, 2, 0), 360000);
+        due("the seventh has it still", seven.where(0, 5, 0, 6, 2, 6), 240000);
         OneHead full = of(LINE + "news a c 9 1;news b a 9 1;");
         due("full heads are no matter", full.where(0, 0, 0, 10, 1, 1), 1000000);
     }
@@ -203,6 +224,15 @@ final class EdgesOfKeeping extends Sentences {
         OneHead tiny = of(PAIR + "meet a b 1 chance 9;".repeat(16) + "news a b 9 1;");
         due("more by 0.1 to the 64th", tiny.ask(0, 1, 0, 5, 64), 1);
         due("more by 0.1 to the 64th", tiny.ask(0, 0, 0, 5, 64), 0);
+        OneHead tiniest = of(PAIR + "meet a b 1 chance 7;".repeat(16) + "news a b 9 1;");
+        due("more by 0.02 to the 64th", tiniest.ask(0, 1, 0, 7, 64), 1);
+        due("more by 0.02 to the 63rd", tiniest.ask(0, 1, 0, 7, 63), 1);
+        OneHead lastTwo = of(LOW + "person d 1;person e 1;person f 1;person g 1;" + "meet f g 1 chance 7;".repeat(16)
+                + "news a b 9 1;");
+        due("more by 0.02 to the 64th, the last", lastTwo.ask(0, 6, 0, 7, 64), 6);
+        due("more by 0.02 to the 64th, the last but one", lastTwo.ask(0, 5, 0, 7, 64), 5);
+        due("a half and very little", lastTwo.where(0, 6, 0, 7, 64, 6), 500000);
+        due("a half less very little", lastTwo.where(0, 6, 0, 7, 64, 5), 499999);
         OneHead even = of(PAIR + "meet a b 1;".repeat(16) + "news a b 9 1;");
         due("alike behind 64 times", even.ask(0, 1, 0, 5, 64), 0);
         OneHead nearly = of(LOW + "meet a b 1;meet a c 2 chance 1;" + "meet b c 3 chance 9;".repeat(8) + "news a c 9 1;");
@@ -246,7 +276,10 @@ final class EdgesOfKeeping extends Sentences {
         due("a fourth one", fight(x, "0 3;", 0), -1);
         due("a fifth one is no row", fight(x, "0 4;", 0), NO_ROW);
         due("the last TIME", fight(x, "11 0;", 1), 1);
-        due("no such TIME", fight(x, "12 0;", 1), -1);
+        for (int p = 0; p < 3; p++) {
+            due("no such TIME", fight(x, "12 0;", p), -1);
+        }
+        due("no TIME at all", fight(of(PAIR), "0 0;", 0), -1);
         due("TIME 64 is no row", fight(x, "64 0;", 1), NO_ROW);
         due("a TIME ahead of the one before", fight(x, "1 0;0 1;", 1), -2);
         due("the same TIME", fight(x, "1 0;1 0;1 0;", 1), 3);

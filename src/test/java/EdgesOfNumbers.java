@@ -1,4 +1,3 @@
-import java.util.function.IntUnaryOperator;
 
 /** Every number of every call, far below and far above what it can be; what is refused changes nothing. */
 final class EdgesOfNumbers extends Sentences {
@@ -32,17 +31,30 @@ final class EdgesOfNumbers extends Sentences {
         due("RANGE", OneHead.RANGE, -2);
     }
 
-    /** Each number outside of least .. most has one answer. */
-    private static void outside(String call, int least, int most, int want, IntUnaryOperator answer) {
-        due(call + ", " + (least - 1), answer.applyAsInt(least - 1), want);
+    /** A call with one number left open. */
+    private interface Call {
+        int with(OneHead x, int number);
+    }
+
+    /** Each number outside of least .. most has one answer, and leaves all as it was. */
+    private static void outside(String name, int least, int most, int want, Call call) {
+        OneHead x = running();
+        String ahead = stateOf(x);
+        due(name + ", " + (least - 1), call.with(x, least - 1), want);
         if (most < Integer.MAX_VALUE) {
-            due(call + ", " + (most + 1), answer.applyAsInt(most + 1), want);
+            due(name + ", " + (most + 1), call.with(x, most + 1), want);
         }
         for (int number : FAR) {
             if (number < least || number > most) {
-                due(call + ", " + number, answer.applyAsInt(number), want);
+                due(name + ", " + number, call.with(x, number), want);
             }
         }
+        due("nothing changed by " + name, stateOf(x).equals(ahead) ? 1 : 0, 1);
+        for (int p = 0; p < 3; p++) {
+            due("the rule of " + p, x.rule(p, 3, 0), 3);
+        }
+        due("the slot", x.take(0), 3);
+        due("the other slots", x.take(1) + x.take(2), STATE + STATE);
     }
 
     private static OneHead running() {
@@ -70,87 +82,70 @@ final class EdgesOfNumbers extends Sentences {
     }
 
     private static void villageNumbers() {
-        OneHead x = running();
-        String ahead = stateOf(x);
-        outside("end", 0, 0, NONE, x::end);
-        outside("fault", 0, 1, NONE, x::fault);
-        outside("told", 0, 79, NONE, x::told);
-        outside("meeting of m", 0, 1, RANGE, m -> x.meeting(m, 0));
-        outside("meeting of what", 0, 3, RANGE, what -> x.meeting(0, what));
-        outside("time of t", 0, 7, RANGE, t -> x.time(t, 0));
-        outside("time of what", 0, 1, RANGE, what -> x.time(0, what));
-        outside("judged of news", 0, 1, RANGE, n -> x.judged(n, 0));
-        outside("judged of what", 0, 1, NONE, what -> x.judged(0, what));
-        outside("believe", 0, 1, NONE, x::believe);
-        outside("count", 0, 1, NONE, x::count);
-        due("nothing changed", stateOf(x).equals(ahead) ? 1 : 0, 1);
+        outside("end", 0, 0, NONE, (x, number) -> x.end(number));
+        outside("fault", 0, 1, NONE, (x, number) -> x.fault(number));
+        outside("told", 0, 79, NONE, (x, number) -> x.told(number));
+        outside("meeting of m", 0, 1, RANGE, (x, m) -> x.meeting(m, 0));
+        outside("meeting of what", 0, 3, RANGE, (x, what) -> x.meeting(0, what));
+        outside("time of t", 0, 7, RANGE, (x, t) -> x.time(t, 0));
+        outside("time of what", 0, 1, RANGE, (x, what) -> x.time(0, what));
+        outside("judged of news", 0, 1, RANGE, (x, n) -> x.judged(n, 0));
+        outside("judged of what", 0, 1, NONE, (x, what) -> x.judged(0, what));
+        outside("believe", 0, 1, NONE, (x, number) -> x.believe(number));
+        outside("count", 0, 1, NONE, (x, number) -> x.count(number));
     }
 
     private static void pieceNumbers() {
-        OneHead x = running();
-        String ahead = stateOf(x);
-        outside("soon of news", 0, 1, RANGE, n -> x.soon(n, 0, 1, 0));
-        outside("soon of from", 0, 2, RANGE, p -> x.soon(0, p, 1, 0));
-        outside("soon of to", 0, 2, RANGE, p -> x.soon(0, 0, p, 0));
-        outside("soon of from and to", 0, 2, RANGE, p -> x.soon(0, p, p, 0));
-        outside("soon of time", 0, 8, RANGE, t -> x.soon(0, 0, 1, t));
-        outside("surest of news", 0, 1, RANGE, n -> x.surest(n, 0, 1, 0, 9, 0));
-        outside("surest of from", 0, 2, RANGE, p -> x.surest(0, p, 1, 0, 9, 0));
-        outside("surest of to", 0, 2, RANGE, p -> x.surest(0, 0, p, 0, 9, 0));
-        outside("surest of time", 0, 8, RANGE, t -> x.surest(0, 0, 1, t, 9, 0));
-        outside("surest of hour", 0, 95, RANGE, hour -> x.surest(0, 0, 1, 0, hour, 0));
-        outside("surest of what", 0, 1, RANGE, what -> x.surest(0, 0, 1, 0, 9, what));
-        outside("bars of news", 0, 1, RANGE, n -> x.bars(n, 0, 1, 0));
-        outside("bars of from", 0, 2, RANGE, p -> x.bars(0, p, 1, 0));
-        outside("bars of to", 0, 2, RANGE, p -> x.bars(0, 0, p, 0));
-        outside("bars of time", 0, 8, RANGE, t -> x.bars(0, 0, 1, t));
-        outside("all", 0, 1, RANGE, x::all);
-        outside("together of set", 1, 3, RANGE, set -> x.together(set, 0));
-        outside("together of person", 0, 2, RANGE, p -> x.together(1, p));
-        outside("reply", 0, 8, RANGE, t -> reply(x, "01", t));
-        due("nothing changed", stateOf(x).equals(ahead) ? 1 : 0, 1);
+        outside("soon of news", 0, 1, RANGE, (x, n) -> x.soon(n, 0, 1, 0));
+        outside("soon of from", 0, 2, RANGE, (x, p) -> x.soon(0, p, 1, 0));
+        outside("soon of to", 0, 2, RANGE, (x, p) -> x.soon(0, 0, p, 0));
+        outside("soon of from and to", 0, 2, RANGE, (x, p) -> x.soon(0, p, p, 0));
+        outside("soon of time", 0, 8, RANGE, (x, t) -> x.soon(0, 0, 1, t));
+        outside("surest of news", 0, 1, RANGE, (x, n) -> x.surest(n, 0, 1, 0, 9, 0));
+        outside("surest of from", 0, 2, RANGE, (x, p) -> x.surest(0, p, 1, 0, 9, 0));
+        outside("surest of to", 0, 2, RANGE, (x, p) -> x.surest(0, 0, p, 0, 9, 0));
+        outside("surest of time", 0, 8, RANGE, (x, t) -> x.surest(0, 0, 1, t, 9, 0));
+        outside("surest of hour", 0, 95, RANGE, (x, hour) -> x.surest(0, 0, 1, 0, hour, 0));
+        outside("surest of what", 0, 1, RANGE, (x, what) -> x.surest(0, 0, 1, 0, 9, what));
+        outside("bars of news", 0, 1, RANGE, (x, n) -> x.bars(n, 0, 1, 0));
+        outside("bars of from", 0, 2, RANGE, (x, p) -> x.bars(0, p, 1, 0));
+        outside("bars of to", 0, 2, RANGE, (x, p) -> x.bars(0, 0, p, 0));
+        outside("bars of time", 0, 8, RANGE, (x, t) -> x.bars(0, 0, 1, t));
+        outside("all", 0, 1, RANGE, (x, number) -> x.all(number));
+        outside("together of set", 1, 3, RANGE, (x, set) -> x.together(set, 0));
+        outside("together of person", 0, 2, RANGE, (x, p) -> x.together(1, p));
+        outside("reply", 0, 8, RANGE, (x, t) -> reply(x, "01", t));
     }
 
     private static void findingNumbers() {
-        OneHead x = running();
-        String ahead = stateOf(x);
-        outside("ring", 0, 400, RANGE, d -> ring(x, "0", d));
-        outside("bestRing", 1, 3, RANGE, x::bestRing);
-        outside("where of news", 0, 1, RANGE, n -> x.where(n, 0, 0, 5, 1, 0));
-        outside("where of from", 0, 2, RANGE, p -> x.where(0, p, 0, 5, 1, 0));
-        outside("where of t", 0, 2, RANGE, t -> x.where(0, 0, t, 5, 2, 0));
-        outside("where of u", 0, 10, RANGE, u -> x.where(0, 0, 0, u, 1, 0));
-        outside("where of z", 2, 8, RANGE, z -> x.where(0, 0, 2, 5, z, 0));
-        outside("where of person", 0, 2, RANGE, p -> x.where(0, 0, 0, 5, 1, p));
-        outside("ask of news", 0, 1, RANGE, n -> x.ask(n, 0, 0, 5, 1));
-        outside("ask of from", 0, 2, RANGE, p -> x.ask(0, p, 0, 5, 1));
-        outside("ask of t", 0, 2, RANGE, t -> x.ask(0, 0, t, 5, 2));
-        outside("ask of u", 0, 10, RANGE, u -> x.ask(0, 0, 0, u, 1));
-        outside("ask of z", 2, 8, RANGE, z -> x.ask(0, 0, 2, 5, z));
-        outside("fight", 0, 2, NO_PERSON, p -> fight(x, "0 0;", p));
-        due("nothing changed", stateOf(x).equals(ahead) ? 1 : 0, 1);
+        outside("ring", 0, 400, RANGE, (x, d) -> ring(x, "0", d));
+        outside("bestRing", 1, 3, RANGE, (x, number) -> x.bestRing(number));
+        outside("where of news", 0, 1, RANGE, (x, n) -> x.where(n, 0, 0, 5, 1, 0));
+        outside("where of from", 0, 2, RANGE, (x, p) -> x.where(0, p, 0, 5, 1, 0));
+        outside("where of t", 0, 2, RANGE, (x, t) -> x.where(0, 0, t, 5, 2, 0));
+        outside("where of u", 0, 10, RANGE, (x, u) -> x.where(0, 0, 0, u, 1, 0));
+        outside("where of z", 2, 8, RANGE, (x, z) -> x.where(0, 0, 2, 5, z, 0));
+        outside("where of person", 0, 2, RANGE, (x, p) -> x.where(0, 0, 0, 5, 1, p));
+        outside("ask of news", 0, 1, RANGE, (x, n) -> x.ask(n, 0, 0, 5, 1));
+        outside("ask of from", 0, 2, RANGE, (x, p) -> x.ask(0, p, 0, 5, 1));
+        outside("ask of t", 0, 2, RANGE, (x, t) -> x.ask(0, 0, t, 5, 2));
+        outside("ask of u", 0, 10, RANGE, (x, u) -> x.ask(0, 0, 0, u, 1));
+        outside("ask of z", 2, 8, RANGE, (x, z) -> x.ask(0, 0, 2, 5, z));
+        outside("fight", 0, 2, NO_PERSON, (x, p) -> fight(x, "0 0;", p));
     }
 
     private static void runNumbers() {
-        OneHead x = running();
-        String ahead = stateOf(x);
-        outside("rule of person", 0, 2, RANGE, p -> x.rule(p, 0, 0));
-        outside("rule of kind", 0, 5, RANGE, kind -> x.rule(0, kind, 0));
-        outside("rule of k", 0, 2, RANGE, k -> x.rule(0, 1, k));
-        outside("begin", 0, Integer.MAX_VALUE, RANGE, x::begin);
-        outside("go", 0, 5, RANGE, x::go);
-        outside("now of news", 0, 1, RANGE, n -> x.now(n, 0));
-        outside("now of what", 0, 2, RANGE, what -> x.now(0, what));
-        outside("head of person", 0, 2, RANGE, p -> x.head(p, 0));
-        outside("head of what", 0, 1, RANGE, what -> x.head(0, what));
-        outside("keep", 0, 2, RANGE, x::keep);
-        outside("take", 0, 2, RANGE, x::take);
-        due("nothing changed", stateOf(x).equals(ahead) ? 1 : 0, 1);
-        for (int p = 0; p < 3; p++) {
-            due("the rule of " + p, x.rule(p, 3, 0), 3);
-        }
-        due("the slot", x.take(0), 3);
-        due("the other slots", x.take(1) + x.take(2), STATE + STATE);
+        outside("rule of person", 0, 2, RANGE, (x, p) -> x.rule(p, 0, 0));
+        outside("rule of kind", 0, 5, RANGE, (x, kind) -> x.rule(0, kind, 0));
+        outside("rule of k", 0, 2, RANGE, (x, k) -> x.rule(0, 1, k));
+        outside("begin", 0, Integer.MAX_VALUE, RANGE, (x, number) -> x.begin(number));
+        outside("go", 0, 5, RANGE, (x, number) -> x.go(number));
+        outside("now of news", 0, 1, RANGE, (x, n) -> x.now(n, 0));
+        outside("now of what", 0, 2, RANGE, (x, what) -> x.now(0, what));
+        outside("head of person", 0, 2, RANGE, (x, p) -> x.head(p, 0));
+        outside("head of what", 0, 1, RANGE, (x, what) -> x.head(0, what));
+        outside("keep", 0, 2, RANGE, (x, number) -> x.keep(number));
+        outside("take", 0, 2, RANGE, (x, number) -> x.take(number));
     }
 
     /** A new object has no people, news or times: no number of one can be. */

@@ -141,6 +141,10 @@ final class EdgesOfPieces extends Sentences {
         due("to one who is barred", barred.surest(0, 0, 1, 0, 95, 0), 0);
         due("from one who is barred", barred.surest(0, 1, 2, 0, 95, 0), 1000000);
         due("kept by one who is barred", barred.surest(0, 1, 1, 0, 95, 0), 1000000);
+        OneHead turned = of(LOW + "meet b a 8;meet c b 20;news a c 9 1;bar b 0;");
+        due("over one who is barred, told first", turned.surest(0, 0, 2, 0, 95, 0), 0);
+        due("to one who is barred, told first", turned.surest(0, 2, 1, 0, 95, 0), 0);
+        due("from one who is barred, told first", turned.surest(0, 1, 2, 0, 95, 0), 1000000);
         OneHead full = of(LINE + "news a c 9 1;news b a 9 1;news c a 9 1;");
         due("full heads are no matter", full.surest(0, 0, 2, 0, 8, 0), 1000000);
     }
@@ -166,6 +170,13 @@ final class EdgesOfPieces extends Sentences {
         OneHead chain = of(SEVEN + "meet a b 1 chance 1;meet b c 2 chance 1;meet c d 3 chance 1;meet d e 4 chance 1;"
                 + "meet e f 5 chance 1;meet f g 6 chance 1;news a g 9 1;");
         due("0.000001", chain.surest(0, 0, 6, 0, 23, 1), 6);
+        OneHead few = of(LOW + "person d 1;meet a b 1 chance 5;" + "meet c d 2 chance 7;".repeat(15) + "news a b 9 1;");
+        int[] halves = {1, 2, 3, 4};
+        for (int day = 0; day < 4; day++) {
+            due("few figures of many times, day " + day, few.surest(0, 0, 1, 0, 24 * day + 23, 1), halves[day]);
+        }
+        due("none of many times", few.surest(0, 0, 2, 0, 95, 1), 0);
+        due("all of many times", few.surest(0, 1, 1, 0, 95, 1), 0);
     }
 
     private static void surestAnswers() {
@@ -207,6 +218,7 @@ final class EdgesOfPieces extends Sentences {
         due("two ways over c, d or neither", round.bars(0, 0, 6, 0), 50);
         OneHead byChance = of(SEVEN + steps + "meet a g 1 chance 9;news a g 9 1;");
         due("a way by chance is none", byChance.bars(0, 0, 6, 0), 62);
+        due("over the first one of all", of(LOW + "meet b a 1;meet a c 2;news a c 9 1;").bars(0, 1, 2, 0), 1);
         OneHead barred = of(SEVEN + steps + "meet b e 1;news a g 9 1;bar c 0;");
         due("c is barred already, that bars nobody", barred.bars(0, 0, 6, 0), 50);
         due("from c, over d or the next day over b", barred.bars(0, 2, 4, 0), 0);
@@ -259,6 +271,20 @@ final class EdgesOfPieces extends Sentences {
         due("not told on before its hour",
                 of(LOW + "person d 1;meet a b 1;meet b d 2;meet b c 3;news a b 2 5;news c b 3 4;").all(0), 5);
         due("no room is made", of(LOW + "meet a b 1;meet b c 3;news a b 1 5;news c b 3 4;").all(0), 5);
+        due("the first one of all barred", of(PAIR + "meet a b 5;news b a 95 7;bar a 0;").all(0), 0);
+        due("told back behind its hour to make room",
+                of("person a 2;person b 1;meet a b 1;news a b 1 5;news a b 25 7;").all(0), 12);
+        due("told back behind a later hour, when nothing came of a day",
+                of("person a 2;person b 1;meet a b 1;news a b 49 5;news a b 73 7;").all(0), 12);
+        due("a step each day",
+                of(SEVEN + "meet d e 1;meet c d 2;meet b c 3;meet a b 4;news a e 73 5;").all(0), 5);
+        due("a step each day, an hour too late",
+                of(SEVEN + "meet d e 1;meet c d 2;meet b c 3;meet a b 4;news a e 72 5;").all(0), 0);
+        OneHead again = of(PAIR + "meet a b 5;news a b 95 7;bar b 0;");
+        due("barred", again.all(0), 0);
+        due("told anew without a bar", tellVillage(again, PAIR + "meet a b 5;news a b 95 7;"), 4);
+        due("barred no more", again.all(0), 7);
+        manyStates();
         due("others in the way",
                 of(LINE + "news a c 8 5;news b a 95 0;").all(0), 0);
         due("the most that can be", of("person a 3;person b 3;meet a b 0;" + "news a b 95 99;".repeat(3)
@@ -268,12 +294,38 @@ final class EdgesOfPieces extends Sentences {
         due("no meetings", of(PAIR + "news a b 95 7;").all(0), 0);
     }
 
+    /** Four pieces that can be with seven people each, and the same twice on one object. */
+    private static void manyStates() {
+        String wide = SEVEN.replace(" 1;", " 3;") + "meet a b 1;meet b c 2;meet c d 3;meet d e 4;meet e f 5;meet f g 6;"
+                + "meet g f 7;meet f e 8;meet e d 9;meet d c 10;meet c b 11;meet b a 12;"
+                + "news a g 6 1;news a g 30 2;news g a 95 4;news d b 95 8;";
+        OneHead x = new OneHead();
+        for (int i = 0; i < 2; i++) {
+            due("many ways", tellVillage(x, wide), 23);
+            due("all of them", x.all(0), 15);
+            due("one with one, the others wherever they are", x.together(4, 0), 11);
+            due("two with one", x.together(12, 0), 11);
+            due("three with the last", x.together(7, 6), 5);
+            due("three with the first", x.together(13, 0), 11);
+            due("four with nobody", x.together(15, 3), NONE);
+        }
+    }
+
     private static void tellingsAtOneTime() {
         sentence("at one TIME, one of both may TELL, and the other too, as many as there is room for, one behind the "
                 + "other (a PIECE at most once at a TIME).");
         for (int holds = 1; holds <= 3; holds++) {
             OneHead x = of("person a 3;person b " + holds + ";meet a b 1;news a b 9 1;news a b 9 2;news a b 9 4;");
             due("b holds " + holds, x.all(0), new int[] {0, 4, 6, 7}[holds]);
+        }
+        for (int set = 0; set < 16; set++) {
+            StringBuilder s = new StringBuilder("person a 3;person b 3;meet a b 1;"
+                    + "news a b 1 1;news a b 1 2;news b a 1 4;news b a 1 8;");
+            for (int n = 0; n < 4; n++) {
+                s.append((set >> n & 1) == 1 ? "" : (n < 2 ? "bar b " : "bar a ") + n + ";");
+            }
+            int room = set == 3 ? 2 : set == 12 ? 8 : set;
+            due("those that aren't barred, " + set, of(s.toString()).all(0), room);
         }
         due("two full heads", of(PAIR + "meet a b 1;news a b 9 5;news b a 9 3;").all(0), 0);
         due("room for one: first a, then b",

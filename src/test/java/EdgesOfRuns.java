@@ -124,13 +124,16 @@ final class EdgesOfRuns extends Sentences {
         x.go(1);
         due("back to c", x.now(0, 0), 2);
         OneHead anew = of(way);
-        anew.rule(1, NOBODY, 0);
+        anew.rule(1, BACK, 0);
         anew.begin(1);
-        anew.go(1);
+        anew.go(3);
+        due("b told it back to a", anew.now(0, 0), 0);
+        due("it was told twice", anew.now(0, 1), 2);
         anew.begin(1);
         anew.rule(0, BACK, 0);
         anew.go(12);
         due("in a new run nobody told it him", anew.now(0, 0), 0);
+        due("in a new run it is never told", anew.now(0, 1), 0);
     }
 
     private static void best() {
@@ -477,8 +480,8 @@ final class EdgesOfRuns extends Sentences {
     }
 
     private static void sameByParts() {
-        String village = "person a 2 dies 30;person b 1 dies 90;person c 2;meet a b 1 chance 7;meet b c 5;meet a c 9 chance 4;"
-                + "news a c 95 1;news a b 95 1;news c a 95 1;";
+        String village = "person a 2 dies 30;person b 1 dies 90;person c 2;meet a b 1 chance 7;meet b c 5;"
+                + "meet a c 9 chance 4;news a c 95 1;news a b 95 1;news c a 95 1;";
         OneHead whole = of(village);
         OneHead parts = of(village);
         for (int seed = 0; seed < 20; seed++) {
@@ -597,8 +600,9 @@ final class EdgesOfRuns extends Sentences {
 
     private static void takeAnswers() {
         sentence("The RUN becomes as a SLOT keeps it: which TIME comes; RANGE; STATE: it is empty.");
-        OneHead x = of("person a 2 dies 60;person b 2 dies 300;person c 2;meet a b 1 chance 6;meet b c 5;meet c a 9 chance 5;"
-                + "news a c 95 1;news a b 95 1;news c a 95 1;");
+        String village = "person a 2 dies 60;person b 2 dies 300;person c 2;meet a b 1 chance 6;meet b c 5;"
+                + "meet c a 9 chance 5;news a c 95 1;news a b 95 1;news c a 95 1;";
+        OneHead x = of(village);
         for (int slot = 0; slot < 3; slot++) {
             due("empty, take(" + slot + ")", x.take(slot), STATE);
         }
@@ -611,16 +615,17 @@ final class EdgesOfRuns extends Sentences {
         due("empty, take(2)", x.take(2), STATE);
         due("the RUN stands where it stood", x.go(0), 2);
         for (int seed = 0; seed < 20; seed++) {
-            x.begin(seed);
-            x.go(5);
-            x.keep(2);
-            String ahead = told(x);
-            x.go(7);
-            String behind = told(x);
-            due("take(2)", x.take(2), 5);
-            due("as it was kept", told(x).equals(ahead) ? 1 : 0, 1);
-            x.go(7);
-            due("and goes on alike", told(x).equals(behind) ? 1 : 0, 1);
+            OneHead kept = of(village);
+            kept.begin(seed);
+            kept.go(5);
+            kept.keep(2);
+            String ahead = told(kept);
+            kept.go(7);
+            String behind = told(kept);
+            due("take(2)", kept.take(2), 5);
+            due("as it was kept", told(kept).equals(ahead) ? 1 : 0, 1);
+            kept.go(7);
+            due("and goes on alike", told(kept).equals(behind) ? 1 : 0, 1);
         }
         // who told it him is kept, too; RULES are not the RUN's
         OneHead y = of(LOW + "person d 1;meet a b 1;meet b c 2;meet a b 3;news a d 95 1;");

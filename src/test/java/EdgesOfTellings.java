@@ -112,6 +112,8 @@ final class EdgesOfTellings extends Sentences {
         due("the last TIME", judge(x, "0 0;11 0;"), -2);
         due("the last TIME, c has told the other one", judge(of(LINE + "news a c 95 1;"), "0 0;11 0;"), 2);
         due("TIMES", judge(x, "12 0;"), -1);
+        due("TIMES, with room in each head", judge(of("person a 3;person b 3;meet a b 1;news a b 9 1;"), "4 0;"), -1);
+        due("TIMES, no meetings", judge(of("person a 3;person b 3;news a b 9 1;"), "0 0;"), -1);
         due("the same TIME", judge(x, "0 0;0 0;0 0;"), 3);
         due("a TIME ahead of the one before", judge(x, "3 0;2 1;"), -2);
         due("of the second NEWS", judge(x, "1 1;"), 1);

@@ -237,6 +237,12 @@ final class EdgesOfTexts extends Sentences {
         due("eight letters", tellVillage(x, "person abcdefgh 1;person abcdefgi 1;meet abcdefgh abcdefgi 1;"), 3);
         due("the first and the last letter", tellVillage(x, "person az 1;person za 1;person zzzzzzzz 1;"), 3);
         due("a word and more of it", tellVillage(x, "person a 1;person aa 1;person aaaaaaaa 1;"), 3);
+        for (char one = 'a'; one < 'z'; one++) {
+            for (char another = (char) (one + 1); another <= 'z'; another++) {
+                String two = "person b" + one + " 1;person b" + another + " 1;person " + one + "b 1;";
+                due("village() of \"" + two + "\"", tellVillage(new OneHead(), two), one == 'b' ? NONE : 3);
+            }
+        }
         dueFault("person abcdefgh 1;person abcdefgh 1;", 3, 25);
         dueFault("person abcdefghi 1;", 1, 7);
         dueFault("person a 1;person b 1;meet a bcdefghij 1;", 1, 29);
@@ -469,6 +475,15 @@ final class EdgesOfTexts extends Sentences {
         due("the new one's news", x.told(2), 0);
         due("the new one's times", x.told(3), 0);
         due("the new one's worth", x.all(0), 0);
+        OneHead less = new OneHead();
+        for (int n = 6; n >= 0; n--) {
+            String text = "person a 3;person b 3;" + "meet a b 1;".repeat(n) + "news a b 1 1;".repeat(n / 2);
+            due("ever less is told", tellVillage(less, text), 2 + n + n / 2);
+            due("meetings, ever less", less.told(1), n);
+            due("news, ever less", less.told(2), n / 2);
+            due("times, ever less", less.told(3), 4 * n);
+            due("the first time that there isn't", less.time(4 * n, 0), RANGE);
+        }
 
         sentence("RULES are ANY, there is no RUN, SLOTS are empty, what judge(), fight() told is gone.");
         OneHead y = of(small);
