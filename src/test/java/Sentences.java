@@ -38,6 +38,10 @@ abstract class Sentences extends Checks {
     /** Each sentence stands in the document and has answers; none that names a boundary is left out. */
     static void compareWith(Path document) throws Exception {
         close();
+        if (!Files.isReadable(document)) {
+            System.out.println("no " + document + " to compare the sentences with");
+            return;
+        }
         String text = Files.readString(document).replace("```text", "").replace("```", "").replace("`", "")
                 .replaceAll("\\s+", " ");
         BitSet covered = new BitSet();
