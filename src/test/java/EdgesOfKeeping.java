@@ -80,6 +80,10 @@ final class EdgesOfKeeping extends Sentences {
         due("0.5 to the 400th", ring(x, "3", 400), 0);
         due("0.5 to the 6th, whole millionths", ring(x, "3", 6), 15625);
         due("0.9 to the 6th, whole millionths", ring(x, "0", 6), 531441);
+        due("a whole number less some 0.00000001", ring(of("person a 1 dies 5;person b 1 dies 6;person c 1 dies 8;"
+                + "person d 1 dies 13;person e 1 dies 16;person f 1 dies 30;person g 1 dies 37;"), "0123456", 138), 104286);
+        due("a whole number less some 0.00000001", ring(of("person a 1 dies 2;person b 1 dies 3;person c 1 dies 5;"
+                + "person d 1 dies 12;person e 1 dies 16;person f 1 dies 18;person g 1 dies 31;"), "0123456", 264), 37267);
         for (int dies : new int[] {1, 7, 50, 333, 450, 499, 500}) {
             OneHead one = of("person a 1 dies " + dies + ";");
             BigInteger product = BigInteger.valueOf(1000000);
@@ -235,6 +239,16 @@ final class EdgesOfKeeping extends Sentences {
         due("a half less very little", lastTwo.where(0, 6, 0, 7, 64, 5), 499999);
         OneHead even = of(PAIR + "meet a b 1;".repeat(16) + "news a b 9 1;");
         due("alike behind 64 times", even.ask(0, 1, 0, 5, 64), 0);
+        // at the last time a and b come to have the same, with 124 figures; c has a little less
+        for (String mixed : new String[] {"a1 b1 a3 b1 a3 b3 b3 a1 b1 a1 b3 a1 b1 b1 a1",
+            "a3 b1 a1 b1 a1 b1 a1 a1 b3 b3 a3 b1 a1 b3 a3", "b1 a1 b1 a3 b1 a1 a3 b1 a1 b1 a1 b3 a3 b1 b1",
+            "b3 a1 b1 a3 b1 a1 b1 b3 b1 a1 b1 a1 b1 a1 b3"}) {
+            StringBuilder s = new StringBuilder(LOW);
+            for (String one : mixed.split(" ")) {
+                s.append("meet ").append(one.charAt(0)).append(" c 1 chance ").append(one.charAt(1)).append(";");
+            }
+            due("alike with all their figures", of(s + "meet a b 2;news a b 9 1;").ask(0, 0, 0, 5, 64), 0);
+        }
         OneHead nearly = of(LOW + "meet a b 1;meet a c 2 chance 1;" + "meet b c 3 chance 9;".repeat(8) + "news a c 9 1;");
         // behind the first day a has 0.475, b 0.2625 and little, c the rest of it
         due("three of them", nearly.ask(0, 0, 0, 5, 10), 0);

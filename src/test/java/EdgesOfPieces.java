@@ -388,6 +388,9 @@ final class EdgesOfPieces extends Sentences {
         due("his own one and two parts", parts.together(11, 2), 1);
         OneHead byChance = of(PAIR + "meet a b 1 chance 9;news a b 9 1;");
         due("not by chance", byChance.together(1, 1), NONE);
+        OneHead late = of(LOW + "meet a c 0;meet a b 5;news b a 0 9;");
+        due("behind its hour", late.together(1, 0), 1);
+        due("behind its hour it is worth nothing", late.all(0), 0);
         OneHead barred = of(PAIR + "meet a b 1;news a b 9 1;bar b 0;");
         due("barred", barred.together(1, 1), NONE);
         OneHead back = of("person a 1;person b 2;meet a b 1;news a b 9 1;news b a 9 1;");

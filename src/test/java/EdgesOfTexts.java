@@ -484,6 +484,7 @@ final class EdgesOfTexts extends Sentences {
             due("times, ever less", less.told(3), 4 * n);
             due("the first time that there isn't", less.time(4 * n, 0), RANGE);
         }
+        nothingOfLargeOnes();
 
         sentence("RULES are ANY, there is no RUN, SLOTS are empty, what judge(), fight() told is gone.");
         OneHead y = of(small);
@@ -515,6 +516,55 @@ final class EdgesOfTexts extends Sentences {
         y.go(1);
         due("by ANY it is told", y.now(0, 0), 1);
         sayWhatAFaultLeaves(of(small));
+    }
+
+    /** A small village told behind two large ones: whatever held those, nothing of them may show. */
+    private static OneHead behindLargeOnes(String small) {
+        OneHead x = new OneHead();
+        String large = PAIR + "person c 3;meet a b 0;" + "meet a b 5;".repeat(15)
+                + "news a b 0 99;news b a 0 99;news a b 0 99;news b a 0 99;bar c 0;bar c 1;bar c 2;bar c 3;";
+        due("a large one", tellVillage(x, large), 27);
+        due("its worth", x.all(0) + x.all(1), 792);
+        due("a large one again", tellVillage(x, large), 27);
+        due("its worth again", x.all(0) + x.all(1), 792);
+        due("a small one has no fault", tellVillage(x, small) > 0 ? 1 : 0, 1);
+        return x;
+    }
+
+    private static void nothingOfLargeOnes() {
+        OneHead none = behindLargeOnes(PAIR + "news a b 95 7;");
+        due("no times: soon", none.soon(0, 0, 1, 0), NONE);
+        due("no times: surest", none.surest(0, 0, 1, 0, 95, 0), 0);
+        due("no times: bars", none.bars(0, 0, 1, 0), 0);
+        due("no times: all(0)", none.all(0), 0);
+        due("no times: all(1)", none.all(1), 0);
+        due("no times: together", none.together(1, 1), NONE);
+        due("no times: reply", reply(none, "01", 0), NONE);
+        due("no times: judge", judge(none, "0 0;"), -1);
+        due("no times: fight", fight(none, "0 0;", 0), -1);
+        none.begin(1);
+        due("no times: go", none.go(1), RANGE);
+        OneHead same = behindLargeOnes(PAIR + "meet a b 0;news a b 95 0;");
+        due("one news: all(0)", same.all(0), 0);
+        due("one news: all(1)", same.all(1), 0);
+        due("one news: together", same.together(2, 0), RANGE);
+        OneHead few = behindLargeOnes(PAIR + "person c 3;meet a c 0;news a c 95 0;");
+        due("four times: soon", few.soon(0, 0, 1, 0), NONE);
+        due("four times: soon at the end", few.soon(0, 0, 2, 4), NONE);
+        due("four times: reply", reply(few, "01", 0), NONE);
+        due("four times: all(0)", few.all(0), 0);
+        due("four times: all(1)", few.all(1), 0);
+        due("four times: together", few.together(1, 1), NONE);
+        due("four times: together, nobody is barred", few.together(1, 2), 0);
+        due("four times: where", few.where(0, 0, 0, 10, 4, 1), 0);
+        due("four times: judge", judge(few, "4 0;"), -1);
+        due("four times: fight", fight(few, "4 0;", 0), -1);
+        due("four times: told(71)", few.told(71), NONE);
+        few.begin(1);
+        few.go(4);
+        due("four times: told once", few.now(0, 1), 1);
+        due("four times: with c", few.now(0, 0), 2);
+        due("four times: head", few.head(1, 0), 0);
     }
 
     /** The document says of a FAULT that it stays: so does what hangs on the village that stays. */
