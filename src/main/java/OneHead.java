@@ -1367,7 +1367,16 @@ public final class OneHead {
             int shift = tens - 6;
             int i = shift / LIMB_DIGITS;
             int cut = shift % LIMB_DIGITS;
-            return (int) (limbAt(i) / tenTo(cut) + limbAt(i + 1) * tenTo(LIMB_DIGITS - cut));
+            return (int) (withoutDigits(limbAt(i), cut) + limbAt(i + 1) * tenTo(LIMB_DIGITS - cut));
+        }
+
+        /** Cuts one digit at a time, so that every divisor is seen to be more than 0. */
+        private static long withoutDigits(long limb, int digits) {
+            long rest = limb;
+            for (int i = 0; i < digits; i++) {
+                rest /= 10;
+            }
+            return rest;
         }
 
         private static long tenTo(int power) {

@@ -16,6 +16,8 @@ import java.util.TreeSet;
 import javax.lang.model.element.Element;
 import javax.lang.model.element.ElementKind;
 import javax.lang.model.element.Modifier;
+import javax.lang.model.element.TypeElement;
+import javax.lang.model.element.VariableElement;
 import javax.tools.JavaCompiler;
 import javax.tools.StandardJavaFileManager;
 import javax.tools.ToolProvider;
@@ -31,6 +33,9 @@ public final class LanguageRules extends TreePathScanner<Void, Void> {
     private static final Set<Tree.Kind> FORBIDDEN = Set.of(Tree.Kind.THROW, Tree.Kind.TRY, Tree.Kind.CATCH,
             Tree.Kind.SYNCHRONIZED, Tree.Kind.ASSERT, Tree.Kind.LAMBDA_EXPRESSION, Tree.Kind.MEMBER_REFERENCE);
 
+    private static final Set<Tree.Kind> COMPARISONS = Set.of(Tree.Kind.LESS_THAN, Tree.Kind.LESS_THAN_EQUAL,
+            Tree.Kind.GREATER_THAN, Tree.Kind.GREATER_THAN_EQUAL);
+
     private static int wrong = 0;
 
     private final Trees trees;
@@ -38,6 +43,7 @@ public final class LanguageRules extends TreePathScanner<Void, Void> {
     private final Map<Element, Set<Element>> calls = new LinkedHashMap<>();
     private final Set<Element> own = new HashSet<>();
     private Element method;
+    private Set<Element> lookedAt = Set.of();
     private int classes;
 
     private LanguageRules(Trees trees, CompilationUnitTree unit) {
@@ -162,9 +168,72 @@ public final class LanguageRules extends TreePathScanner<Void, Void> {
             fail(11, e + " has " + (to - from) + " lines", tree);
         }
         method = e;
+        lookedAt = comparedIn(getCurrentPath());
         super.visitMethod(tree, p);
         method = null;
         return null;
+    }
+
+    /** What a method compares with something, so that it is looked at before it is used. */
+    private Set<Element> comparedIn(TreePath path) {
+        Set<Element> found = new HashSet<>();
+        new TreePathScanner<Void, Void>() {
+            @Override
+            public Void visitBinary(BinaryTree tree, Void p) {
+                if (COMPARISONS.contains(tree.getKind())) {
+                    found.addAll(namesIn(new TreePath(getCurrentPath(), tree.getLeftOperand())));
+                    found.addAll(namesIn(new TreePath(getCurrentPath(), tree.getRightOperand())));
+                }
+                return super.visitBinary(tree, p);
+            }
+        }.scan(path, null);
+        return found;
+    }
+
+    /** The variables and calls in an expression; constants can be looked at by whoever reads them. */
+    private Set<Element> namesIn(TreePath path) {
+        Set<Element> found = new HashSet<>();
+        new TreePathScanner<Void, Void>() {
+            @Override
+            public Void visitIdentifier(IdentifierTree tree, Void p) {
+                Element e = trees.getElement(getCurrentPath());
+                if (!(e instanceof VariableElement v && v.getConstantValue() != null) && !(e instanceof TypeElement)) {
+                    found.add(e);
+                }
+                return super.visitIdentifier(tree, p);
+            }
+        }.scan(path, null);
+        return found;
+    }
+
+    private void dueLookedAt(String what, ExpressionTree tree) {
+        for (Element e : namesIn(new TreePath(getCurrentPath(), tree))) {
+            if (!lookedAt.contains(e)) {
+                fail(7, what + " " + tree + ": " + e + " is not looked at", tree);
+            }
+        }
+    }
+
+    @Override
+    public Void visitBinary(BinaryTree tree, Void p) {
+        if (tree.getKind() == Tree.Kind.DIVIDE || tree.getKind() == Tree.Kind.REMAINDER) {
+            dueLookedAt("divisor", tree.getRightOperand());
+        }
+        return super.visitBinary(tree, p);
+    }
+
+    @Override
+    public Void visitCompoundAssignment(CompoundAssignmentTree tree, Void p) {
+        if (tree.getKind() == Tree.Kind.DIVIDE_ASSIGNMENT || tree.getKind() == Tree.Kind.REMAINDER_ASSIGNMENT) {
+            dueLookedAt("divisor", tree.getExpression());
+        }
+        return super.visitCompoundAssignment(tree, p);
+    }
+
+    @Override
+    public Void visitArrayAccess(ArrayAccessTree tree, Void p) {
+        dueLookedAt("index", tree.getIndex());
+        return super.visitArrayAccess(tree, p);
     }
 
     @Override
