@@ -1389,33 +1389,40 @@ public final class OneHead {
     }
 
     /**
-     * All pieces together. A state has three bits a piece: with whom it is. For each state that
-     * can be there is the greatest worth of what came in time till then.
+     * All pieces together. A state is a number with a digit in base seven a piece: with whom it is.
+     * For each state that can be there is the greatest worth of what came in time till then.
      */
     private static final class Pieces {
         static final int AT_FIRST = -1;
         static final int NEVER = MOST_TIMES;
-        static final int PLACE_BITS = 3;
-        static final int LAST_PLACE = (1 << PLACE_BITS) - 1;
-        static final int MOST_STATES = 1 << PLACE_BITS * MOST_NEWS;
-        static final int MOST_REACHED = MOST_PEOPLE * MOST_PEOPLE * MOST_PEOPLE * MOST_PEOPLE;
+        static final int MOST_STATES = MOST_PEOPLE * MOST_PEOPLE * MOST_PEOPLE * MOST_PEOPLE;
         static final int SETS = 1 << MOST_NEWS;
-        /** For each set of pieces, the lowest bit of the place of each. */
-        private static final int[] LOWEST_BITS =
-            {0, 1, 8, 9, 64, 65, 72, 73, 512, 513, 520, 521, 576, 577, 584, 585};
+        /** For each set of pieces, the number with the digit 1 for each of them. */
+        private static final int[] ONES =
+            {0, 1, 7, 8, 49, 50, 56, 57, 343, 344, 350, 351, 392, 393, 399, 400};
 
         final int[] worth;
         final int[] reached;
+        /** For each state that is reached, four bits a person: the set of pieces it has. */
+        final int[] heads;
         final int[] firstWith;
         final int[] barredFrom;
         int reachedSize;
         int greatest;
         boolean changed;
         boolean known;
+        // Of the meeting that passes: who meets, what each holds and may be told.
+        int first;
+        int other;
+        int firstHolds;
+        int otherHolds;
+        int forFirst;
+        int forOther;
 
         Pieces() {
             worth = new int[MOST_STATES];
-            reached = new int[MOST_REACHED];
+            reached = new int[MOST_STATES];
+            heads = new int[MOST_STATES];
             firstWith = new int[SETS * MOST_PEOPLE];
             barredFrom = new int[MOST_PEOPLE];
         }
@@ -1452,30 +1459,21 @@ public final class OneHead {
             Arrays.fill(firstWith, NEVER);
             Arrays.fill(barredFrom, 0);
             int state = 0;
+            int has = 0;
             for (int n = 0; n < village.news; n++) {
-                state |= at(village.froms, n) << PLACE_BITS * n;
+                int from = at(village.froms, n);
+                state += from * at(ONES, 1 << n);
+                has |= 1 << MOST_NEWS * from + n;
                 for (int p = 0; p < village.people; p++) {
                     put(barredFrom, p, at(barredFrom, p) | (at(village.barred, n) >> p & 1) << n);
                 }
             }
             reachedSize = 0;
-            arrive(village, state, 0, AT_FIRST);
+            arrive(state, has, 0, AT_FIRST);
         }
 
-        private static int placeOf(int state, int n) {
-            return state >> PLACE_BITS * n & LAST_PLACE;
-        }
-
-        private static int setWith(Village village, int state, int person) {
-            int set = 0;
-            int rest = state;
-            for (int n = 0; n < village.news; n++) {
-                if ((rest & LAST_PLACE) == person) {
-                    set |= 1 << n;
-                }
-                rest >>= PLACE_BITS;
-            }
-            return set;
+        private static int setOf(int has, int person) {
+            return has >> MOST_NEWS * person & SETS - 1;
         }
 
         /**
@@ -1483,35 +1481,42 @@ public final class OneHead {
          * states found by it are looked at in the same pass.
          */
         private void passMeeting(Village village, int t) {
+            first = at(village.times.firsts, t);
+            other = at(village.times.others, t);
+            firstHolds = at(village.holds, first);
+            otherHolds = at(village.holds, other);
+            forFirst = ~at(barredFrom, first);
+            forOther = ~at(barredFrom, other);
             int before = reachedSize;
             for (int i = 0; i < before; i++) {
-                tellFrom(village, at(reached, i), t);
+                tellFrom(at(reached, i), at(heads, i), t);
             }
         }
 
         /** Every set of pieces that the two can tell each other, one behind the other. */
-        private void tellFrom(Village village, int state, int t) {
-            int first = at(village.times.firsts, t);
-            int other = at(village.times.others, t);
-            int firstHas = setWith(village, state, first);
-            int otherHas = setWith(village, state, other);
-            int roomFirst = at(village.holds, first) - Integer.bitCount(firstHas);
-            int roomOther = at(village.holds, other) - Integer.bitCount(otherHas);
-            if (roomFirst + roomOther < 1) {
+        private void tellFrom(int state, int has, int t) {
+            int firstHas = setOf(has, first);
+            int otherHas = setOf(has, other);
+            int tellable = firstHas & forOther | otherHas & forFirst;
+            int roomFirst = firstHolds - Integer.bitCount(firstHas);
+            int roomOther = otherHolds - Integer.bitCount(otherHas);
+            if (tellable == 0 || roomFirst + roomOther < 1) {
                 return;
             }
-            int tellable = firstHas & ~at(barredFrom, other) | otherHas & ~at(barredFrom, first);
-            for (int set = tellable; set > 0; set--) {
-                int gain = Integer.bitCount(set & firstHas) - Integer.bitCount(set & otherHas);
+            int value = at(worth, state);
+            for (int set = tellable; set > 0; set = set - 1 & tellable) {
+                int going = set & firstHas;
+                int coming = set & otherHas;
+                int gain = Integer.bitCount(going) - Integer.bitCount(coming);
                 // With any room at all the two can take turns, so the end alone decides.
-                if ((set & ~tellable) == 0 && gain <= roomOther && -gain <= roomFirst) {
-                    int moved = at(LOWEST_BITS, set) * (first ^ other);
-                    arrive(village, state ^ moved, at(worth, state), t);
+                if (gain <= roomOther && -gain <= roomFirst) {
+                    arrive(state + (at(ONES, going) - at(ONES, coming)) * (other - first),
+                            has ^ set << MOST_NEWS * first ^ set << MOST_NEWS * other, value, t);
                 }
             }
         }
 
-        private void arrive(Village village, int state, int value, int t) {
+        private void arrive(int state, int has, int value, int t) {
             int before = at(worth, state);
             if (before >= value) {
                 return;
@@ -1522,19 +1527,20 @@ public final class OneHead {
                 return;
             }
             put(reached, reachedSize, state);
+            put(heads, reachedSize, has);
             reachedSize++;
-            for (int n = 0; n < village.news; n++) {
-                int person = placeOf(state, n);
-                int i = setWith(village, state, person) * MOST_PEOPLE + person;
+            for (int p = 0; p < MOST_PEOPLE; p++) {
+                int i = setOf(has, p) * MOST_PEOPLE + p;
                 put(firstWith, i, Math.min(at(firstWith, i), t));
             }
         }
 
         private void reward(Village village, int n) {
             changed = true;
+            int wanted = 1 << MOST_NEWS * at(village.fors, n) + n;
             for (int i = 0; i < reachedSize; i++) {
-                int state = at(reached, i);
-                if (placeOf(state, n) == at(village.fors, n)) {
+                if ((at(heads, i) & wanted) != 0) {
+                    int state = at(reached, i);
                     put(worth, state, at(worth, state) + at(village.worths, n));
                 }
             }
